@@ -1,3 +1,5 @@
+import java.math.BigInteger;
+
 /** Promises 10 to 16: run, sum, at, offset, miss, known, scale. */
 public final class AdjustTest {
     private static final Checks CHECKS = new Checks("AdjustTest");
@@ -14,6 +16,8 @@ public final class AdjustTest {
         lengths();
         scales();
         distancesGoDown();
+        farDistance();
+        lengthBetweenThese();
         CHECKS.end();
     }
 
@@ -244,5 +248,39 @@ public final class AdjustTest {
         x.seen(1, 0, 0, 998);
         x.run(0);
         CHECKS.due("a whole root", x.scale(1), 1000);
+    }
+
+    /** Offsets drive two spare places apart, each beyond what any photo sees. */
+    private static void farDistance() {
+        PhotoModels x = new PhotoModels(6, 6, 0);
+        for (int i = 0; i < 4; i++) {
+            x.place();
+        }
+        x.seen(0, 0, 0, 0);
+        x.seen(0, 1, 999, 999);
+        x.seen(1, 0, 999, 999);
+        x.seen(1, 2, 0, 0);
+        x.seen(2, 1, 0, 0);
+        x.seen(3, 2, 999, 999);
+        x.spare(2, true);
+        x.spare(3, true);
+        x.known(2, 3, 1);
+        CHECKS.due("run(20)", x.run(20), 20);
+        CHECKS.due("below all photos", x.at(2, 0) < -998000, true);
+        CHECKS.due("above all photos", x.at(3, 1) > 1997000, true);
+        BigInteger across = BigInteger.valueOf(x.at(2, 0) - x.at(3, 0)).pow(2);
+        BigInteger down = BigInteger.valueOf(x.at(2, 1) - x.at(3, 1)).pow(2);
+        CHECKS.due("far distance", x.scale(1), across.add(down).sqrt().longValueExact());
+    }
+
+    private static void lengthBetweenThese() {
+        PhotoModels x = new PhotoModels(6, 6, 0);
+        for (int i = 0; i < 3; i++) {
+            x.place();
+            x.seen(i, 0, 10 * i * i, 0);
+        }
+        x.known(2, 1, 1);
+        x.run(0);
+        CHECKS.due("from 1 to 2", x.scale(1), 30000);
     }
 }

@@ -10,6 +10,7 @@ public final class PhotosTest {
         matchInAnotherPhoto();
         firstOfEqualMatches();
         bestElsewhere();
+        nearAndFar();
         foundStaysAsItWas();
         wrongMatches();
         counts();
@@ -139,6 +140,26 @@ public final class PhotosTest {
         x.pixel(1, 0, 0, 0);
         CHECKS.due("miss", x.match(0, 1, 1, 1), 80000);
         CHECKS.due("the only one", x.found(2), 90000);
+    }
+
+    /** A lesser miss beside the found cell has no say, and every other cell has one. */
+    private static void nearAndFar() {
+        for (int farY = 1; farY <= 8; farY++) {
+            for (int farX = 1; farX <= 10; farX++) {
+                PhotoModels x = new PhotoModels(12, 10, 0);
+                x.pixel(0, 5, 5, 200);
+                x.pixel(1, 5, 5, 200);
+                x.pixel(1, farX, farY, farX == 5 && farY == 5 ? 200 : 190);
+                boolean near = Math.abs(farX - 5) <= 1 && Math.abs(farY - 5) <= 1;
+                boolean inWindows = Math.abs(farX - 5) <= 2 && Math.abs(farY - 5) <= 2;
+                x.match(0, 1, 5, 5);
+                if (near) {
+                    CHECKS.due("near " + farX + ", " + farY, x.found(2), 40000);
+                } else if (!inWindows) {
+                    CHECKS.due("far " + farX + ", " + farY, x.found(2), 100);
+                }
+            }
+        }
     }
 
     private static void foundStaysAsItWas() {
