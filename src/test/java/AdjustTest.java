@@ -7,17 +7,21 @@ public final class AdjustTest {
     public static void main(String[] args) {
         begun();
         oneRound();
-        meansGoDown();
-        roundThatIsUndone();
         sparesAreChecks();
         stayTillTheNextRun();
-        wrongRuns();
-        wrongAsks();
         lengths();
         scales();
         distancesGoDown();
         farDistance();
         lengthBetweenThese();
+        leastAndGreatestRounds();
+        sumAsAllIsNow();
+        missOfAPlace();
+        lengthsOfEqualPlaces();
+        rootsGoDown();
+        fractionsAreLessened();
+        greatFraction();
+        someDistancesAreNought();
         CHECKS.end();
     }
 
@@ -62,43 +66,6 @@ public final class AdjustTest {
         CHECKS.due("miss of 0", x.miss(0), first);
         CHECKS.due("miss of 1", x.miss(1), second);
         CHECKS.due("sum", x.sum(), first + second);
-    }
-
-    private static void meansGoDown() {
-        PhotoModels x = new PhotoModels(6, 6, 0);
-        for (int i = 0; i < 3; i++) {
-            x.place();
-            x.seen(i, 1, 0, 0);
-            x.seen(i, 0, i, i == 0 ? 1 : 0);
-        }
-        CHECKS.due("run(1)", x.run(1), 1);
-        // Begun: across 0, 500, 1000; down 500, 0, 0: the offsets are the means of what is below 0.
-        CHECKS.due("- 1500 / 3", x.offset(1, 0), -500);
-        CHECKS.due("- 500 / 3, down", x.offset(1, 1), -167);
-        CHECKS.due("(1000 + 167) / 2", x.at(0, 1), 583);
-        CHECKS.due("167 / 2", x.at(1, 1), 83);
-    }
-
-    private static void roundThatIsUndone() {
-        PhotoModels x = new PhotoModels(6, 6, 0);
-        int[][] seenAcross = {{0, 3, 3}, {1, 2, 3}, {3, 3, -1}};
-        for (int place = 0; place < 3; place++) {
-            x.place();
-            for (int i = 0; i < 3; i++) {
-                x.seen(place, i + 1, seenAcross[place][i], 0);
-            }
-        }
-        CHECKS.due("run(4)", x.run(4), 4);
-        CHECKS.due("sum", x.sum(), 2333334);
-        // A fifth round would move photo 2 to 291 alone, and raise the sum by 1.
-        CHECKS.due("run(20)", x.run(20), 4);
-        CHECKS.due("sum", x.sum(), 2333334);
-        CHECKS.due("offset of 1", x.offset(1, 0), -1042);
-        CHECKS.due("offset of 2", x.offset(2, 0), 292);
-        CHECKS.due("offset of 3", x.offset(3, 0), 1125);
-        CHECKS.due("place 0", x.at(0, 0), 1875);
-        CHECKS.due("place 1", x.at(1, 0), 1875);
-        CHECKS.due("place 2", x.at(2, 0), 3375);
     }
 
     private static void sparesAreChecks() {
@@ -149,36 +116,6 @@ public final class AdjustTest {
         x.seen(0, 1, -1, 0);
         x.run(0);
         CHECKS.due("seen nowhere any more", x.at(0, 0), 0);
-    }
-
-    private static void wrongRuns() {
-        PhotoModels x = new PhotoModels(6, 6, 0);
-        x.place();
-        x.seen(0, 1, 8, 9);
-        for (int rounds : new int[] {-1, 21, Integer.MIN_VALUE, Integer.MAX_VALUE}) {
-            CHECKS.dueThrow("run", Checks.ARGUMENT, () -> x.run(rounds));
-        }
-        CHECKS.due("not begun", x.at(0, 0), 0);
-        CHECKS.due("run(20)", x.run(20), 20);
-    }
-
-    private static void wrongAsks() {
-        PhotoModels x = new PhotoModels(6, 6, 0);
-        x.place();
-        for (int wrong : new int[] {-1, 12, Integer.MIN_VALUE, Integer.MAX_VALUE}) {
-            CHECKS.dueThrow("at place", Checks.INDEX, () -> x.at(wrong, 0));
-            CHECKS.dueThrow("at axis", Checks.INDEX, () -> x.at(0, wrong));
-            CHECKS.dueThrow("offset photo", Checks.INDEX, () -> x.offset(wrong, 0));
-            CHECKS.dueThrow("offset axis", Checks.INDEX, () -> x.offset(0, wrong));
-            CHECKS.dueThrow("miss", Checks.INDEX, () -> x.miss(wrong));
-            CHECKS.dueThrow("scale", Checks.INDEX, () -> x.scale(wrong));
-        }
-        CHECKS.dueThrow("at(1, 0)", Checks.INDEX, () -> x.at(1, 0));
-        CHECKS.dueThrow("at(0, 2)", Checks.INDEX, () -> x.at(0, 2));
-        CHECKS.dueThrow("offset(4, 0)", Checks.INDEX, () -> x.offset(4, 0));
-        CHECKS.dueThrow("offset(0, 2)", Checks.INDEX, () -> x.offset(0, 2));
-        CHECKS.dueThrow("miss(1)", Checks.INDEX, () -> x.miss(1));
-        CHECKS.dueThrow("scale(2)", Checks.INDEX, () -> x.scale(2));
     }
 
     private static void lengths() {
@@ -282,5 +219,160 @@ public final class AdjustTest {
         x.known(2, 1, 1);
         x.run(0);
         CHECKS.due("from 1 to 2", x.scale(1), 30000);
+    }
+
+    /** "rounds is not 0 .. 20": the edges themselves are right, and it begins each time. */
+    private static void leastAndGreatestRounds() {
+        PhotoModels x = new PhotoModels(6, 6, 0);
+        x.place();
+        x.seen(0, 0, 0, 0);
+        x.seen(0, 1, 32, 64);
+        int[] offsets = {0, 16000, 24000, 28000, 30000};
+        for (int rounds = 4; rounds >= 0; rounds--) {
+            CHECKS.due("run", x.run(rounds), rounds);
+            CHECKS.due("across after " + rounds, x.offset(1, 0), offsets[rounds]);
+            CHECKS.due("down after " + rounds, x.offset(1, 1), 2 * offsets[rounds]);
+            CHECKS.due("place after " + rounds, x.at(0, 0), 16000 - offsets[rounds] / 2);
+        }
+        CHECKS.due("run(19)", x.run(19), 19);
+        CHECKS.due("run(20)", x.run(20), 20);
+    }
+
+    /** "The sum, as all is seen and adjusted now." */
+    private static void sumAsAllIsNow() {
+        PhotoModels x = new PhotoModels(6, 6, 0);
+        CHECKS.due("no places", x.sum(), 0);
+        x.place();
+        CHECKS.due("seen nowhere", x.sum(), 0);
+        x.seen(0, 0, 3, 4);
+        CHECKS.due("not adjusted yet", x.sum(), 25000000);
+        x.run(0);
+        CHECKS.due("adjusted", x.sum(), 0);
+        x.seen(0, 0, 4, 4);
+        CHECKS.due("seen elsewhere", x.sum(), 1000000);
+        x.seen(0, 2, 3, 4);
+        CHECKS.due("seen in another one", x.sum(), 1000000);
+        x.seen(0, 0, -1, 0);
+        CHECKS.due("not any more", x.sum(), 0);
+        for (int i = 1; i < 12; i++) {
+            x.place();
+        }
+        for (int i = 0; i < 48; i++) {
+            x.seen(i / 4, i % 4, 999, 999);
+        }
+        long each = 999000L * 999000L * 2;
+        CHECKS.due("the greatest sum", x.sum(), 44 * each + 4 * (996000L * 996000 + 995000L * 995000));
+    }
+
+    /** "What a place (spare or not) has in such a sum." */
+    private static void missOfAPlace() {
+        PhotoModels x = new PhotoModels(6, 6, 0);
+        x.place();
+        x.place();
+        CHECKS.due("seen nowhere", x.miss(1), 0);
+        x.seen(0, 1, 1, 0);
+        x.seen(0, 3, 0, 2);
+        x.seen(1, 1, 0, 3);
+        CHECKS.due("in two photos", x.miss(0), 5000000);
+        CHECKS.due("in one", x.miss(1), 9000000);
+        x.spare(0, true);
+        CHECKS.due("spare", x.miss(0), 5000000);
+        CHECKS.due("its sum is without", x.sum(), 9000000);
+    }
+
+    /** "A known length between two places: how many there are": the same two may have more. */
+    private static void lengthsOfEqualPlaces() {
+        PhotoModels x = new PhotoModels(6, 6, 0);
+        x.place();
+        x.place();
+        x.seen(0, 0, 0, 0);
+        x.seen(1, 0, 0, 1);
+        x.run(0);
+        CHECKS.due("first", x.known(0, 1, 1), 1);
+        CHECKS.due("1 / 1000, above", x.scale(0), 1);
+        CHECKS.due("1 / 1000, below", x.scale(1), 1000);
+        CHECKS.due("again, the other way", x.known(1, 0, 10000), 2);
+        CHECKS.due("10001 / 2000, above", x.scale(0), 10001);
+        CHECKS.due("10001 / 2000, below", x.scale(1), 2000);
+        CHECKS.due("once more", x.known(0, 1, 1), 3);
+        CHECKS.due("10002 / 3000, above", x.scale(0), 1667);
+        CHECKS.due("10002 / 3000, below", x.scale(1), 500);
+    }
+
+    /** "the square root of the sum of both squares, rounded down" */
+    private static void rootsGoDown() {
+        int[][] roots = {{0, 1, 1000}, {1, 0, 1000}, {1, 1, 1414}, {3, 4, 5000}, {1, 2, 2236}, {2, 2, 2828},
+            {500, 1, 500000}, {500, 0, 500000}, {999, 999, 1412799}, {999, 0, 999000}, {0, 999, 999000}};
+        for (int[] each : roots) {
+            PhotoModels x = new PhotoModels(6, 6, 0);
+            x.place();
+            x.place();
+            x.seen(0, 1, each[0], 0);
+            x.seen(1, 1, 0, each[1]);
+            x.run(0);
+            x.known(0, 1, 1);
+            CHECKS.due("above", x.scale(0), 1);
+            CHECKS.due("root for " + each[0] + ", " + each[1], x.scale(1), each[2]);
+        }
+    }
+
+    /** "the fraction that cannot be lessened" */
+    private static void fractionsAreLessened() {
+        int[][] fractions = {{1, 1, 1000}, {10, 1, 100}, {1000, 1, 1}, {999, 999, 1000}, {1024, 128, 125},
+            {10000, 10, 1}, {6000, 6, 1}, {1001, 1001, 1000}, {2500, 5, 2}};
+        for (int[] each : fractions) {
+            PhotoModels x = new PhotoModels(6, 6, 0);
+            x.place();
+            x.place();
+            x.seen(0, 0, 1, 0);
+            x.run(0);
+            x.known(0, 1, each[0]);
+            CHECKS.due(each[0] + " / 1000, above", x.scale(0), each[1]);
+            CHECKS.due(each[0] + " / 1000, below", x.scale(1), each[2]);
+        }
+    }
+
+    private static void greatFraction() {
+        PhotoModels x = new PhotoModels(6, 6, 0);
+        x.place();
+        x.place();
+        x.place();
+        x.seen(0, 0, 0, 0);
+        x.seen(1, 0, 999, 999);
+        x.seen(2, 0, 999, 998);
+        x.run(0);
+        for (int i = 0; i < 10; i++) {
+            x.known(0, i == 0 ? 2 : 1, 10000);
+        }
+        // Distances are 1412092 once and 1412799 nine times.
+        BigInteger one = BigInteger.valueOf(1412092);
+        BigInteger nine = BigInteger.valueOf(1412799);
+        BigInteger above = nine.multiply(BigInteger.valueOf(9)).add(one).multiply(BigInteger.valueOf(10000));
+        BigInteger below = nine.pow(2).multiply(BigInteger.valueOf(9)).add(one.pow(2));
+        BigInteger divisor = above.gcd(below);
+        CHECKS.due("above", x.scale(0), above.divide(divisor).longValueExact());
+        CHECKS.due("below", x.scale(1), below.divide(divisor).longValueExact());
+    }
+
+    /** "0 / 1 if all distances are 0": of no lengths, of one, of ten; not if one is above 0. */
+    private static void someDistancesAreNought() {
+        PhotoModels x = new PhotoModels(6, 6, 0);
+        CHECKS.due("no lengths, above", x.scale(0), 0);
+        CHECKS.due("no lengths, below", x.scale(1), 1);
+        x.place();
+        x.place();
+        x.place();
+        x.seen(0, 0, 5, 5);
+        x.seen(1, 3, 5, 5);
+        x.seen(2, 0, 5, 7);
+        x.run(0);
+        for (int i = 0; i < 9; i++) {
+            x.known(i % 2, 1 - i % 2, 10000);
+            CHECKS.due("at the same, above", x.scale(0), 0);
+            CHECKS.due("at the same, below", x.scale(1), 1);
+        }
+        x.known(2, 1, 3);
+        CHECKS.due("3 / 2000, above", x.scale(0), 3);
+        CHECKS.due("3 / 2000, below", x.scale(1), 2000);
     }
 }

@@ -4,12 +4,16 @@ public final class HeightsTest {
 
     public static void main(String[] args) {
         shiftedRow();
-        lesserDepthInTheLastCell();
         penaltyHolds();
         holesSideBySide();
         holesOfAllShapes();
         heightsStay();
-        wrongHeights();
+        leastAndGreatestPenalty();
+        byItself();
+        levels();
+        joinedAcrossOrDown();
+        ofTheLatestHeights();
+        noHeightsNoHoles();
         CHECKS.end();
     }
 
@@ -31,31 +35,6 @@ public final class HeightsTest {
         CHECKS.due("each row climbs", x.heights(0, 1, 1), 1 + 2 + 3 + 4 + 5);
         CHECKS.due("no holes", x.holes(0), 0);
         CHECKS.due("one great hole", x.holes(-1), 1);
-    }
-
-    private static void lesserDepthInTheLastCell() {
-        PhotoModels x = new PhotoModels(6, 6, 0);
-        CHECKS.due("nothing to tell", x.heights(0, 1, 0), 0);
-        for (int i = 0; i < 36; i++) {
-            CHECKS.due("depth 0 of equal ones", x.depth(i % 6, i / 6), 0);
-        }
-        // Cell 3 must lie on cell 2, and cell 2 must not: the climb costs the same at 1 or 2, and a
-        // way down behind it costs more.
-        x.pixel(0, 3, 2, 250);
-        x.pixel(1, 2, 2, 250);
-        CHECKS.due("one climb", x.heights(0, 1, 7), 7);
-        int[] due = {0, 0, 1, 1, 1, 1};
-        for (int i = 0; i < 6; i++) {
-            CHECKS.due("late climb, cell " + i, x.depth(i, 2), due[i]);
-        }
-        x.pixel(0, 5, 2, 250);
-        x.pixel(1, 5, 2, 250);
-        // Now cell 5 lies on cell 5, and the way down costs the same at 4 or 5.
-        CHECKS.due("up and down", x.heights(0, 1, 7), 14);
-        int[] down = {0, 0, 1, 1, 0, 0};
-        for (int i = 0; i < 6; i++) {
-            CHECKS.due("early way down, cell " + i, x.depth(i, 2), down[i]);
-        }
     }
 
     private static void penaltyHolds() {
@@ -94,26 +73,22 @@ public final class HeightsTest {
     }
 
     private static void holesOfAllShapes() {
-        PhotoModels x = new PhotoModels(20, 20, 0);
-        int dark = 0;
-        for (int y = 0; y < 20; y++) {
-            for (int i = 0; i < 20; i++) {
-                if ((i + y) % 2 == 0) {
-                    x.pixel(0, i, y, 9);
-                    dark++;
-                }
+        PhotoModels board = new PhotoModels(20, 20, 0);
+        PhotoModels way = new PhotoModels(20, 20, 0);
+        for (int i = 0; i < 400; i++) {
+            int across = i % 20;
+            int down = i / 20;
+            if ((across + down) % 2 == 0) {
+                board.pixel(0, across, down, 9);
+            }
+            if (down % 2 == 0 || across == (down % 4 == 1 ? 19 : 0)) {
+                way.pixel(0, across, down, 9);
             }
         }
-        x.heights(0, 1, 0);
-        CHECKS.due("a chessboard", x.holes(0), dark);
-        for (int y = 0; y < 20; y++) {
-            for (int i = 0; i < 20; i++) {
-                boolean open = y % 2 == 0 || i == (y % 4 == 1 ? 19 : 0);
-                x.pixel(0, i, y, open ? 9 : 0);
-            }
-        }
-        x.heights(0, 1, 0);
-        CHECKS.due("a long way that turns", x.holes(0), 1);
+        board.heights(0, 1, 0);
+        CHECKS.due("a chessboard", board.holes(0), 200);
+        way.heights(0, 1, 0);
+        CHECKS.due("a long way that turns", way.holes(0), 1);
     }
 
     private static void heightsStay() {
@@ -135,26 +110,97 @@ public final class HeightsTest {
         CHECKS.due("depth as it was", x.depth(1, 1), 1);
     }
 
-    private static void wrongHeights() {
-        PhotoModels x = new PhotoModels(6, 9, 0);
-        for (int photo : new int[] {-1, 4, Integer.MIN_VALUE, Integer.MAX_VALUE}) {
-            CHECKS.dueThrow("a", Checks.INDEX, () -> x.heights(photo, 0, 1));
-            CHECKS.dueThrow("b", Checks.INDEX, () -> x.heights(0, photo, 1));
-            CHECKS.dueThrow("b and penalty", Checks.INDEX, () -> x.heights(0, photo, -1));
+    /** "penalty is not 0 .. 100": the edges themselves are right. */
+    private static void leastAndGreatestPenalty() {
+        PhotoModels x = new PhotoModels(6, 6, 0);
+        x.pixel(0, 5, 5, 255);
+        x.pixel(1, 3, 5, 255);
+        CHECKS.due("free of cost", x.heights(0, 1, 0), 0);
+        CHECKS.due("depth", x.depth(5, 5), 2);
+        CHECKS.due("2 up, and cell 3 goes round", x.heights(0, 1, 1), 2);
+        CHECKS.due("99 each", x.heights(0, 1, 99), 198);
+        CHECKS.due("100 each", x.heights(0, 1, 100), 200);
+        CHECKS.due("depth", x.depth(5, 5), 2);
+    }
+
+    /** "Heights of a photo by another one (or itself)" */
+    private static void byItself() {
+        PhotoModels x = new PhotoModels(6, 6, 0);
+        for (int photo = 0; photo < 4; photo++) {
+            x.pixel(photo, photo, photo, 200);
+            for (int penalty : new int[] {0, 50, 100}) {
+                CHECKS.due("by itself", x.heights(photo, photo, penalty), 0);
+                CHECKS.due("depth", x.depth(photo, photo), 0);
+                CHECKS.due("holes", x.holes(0), 0);
+            }
         }
-        for (int penalty : new int[] {-1, 101, Integer.MIN_VALUE, Integer.MAX_VALUE}) {
-            CHECKS.dueThrow("penalty", Checks.ARGUMENT, () -> x.heights(0, 1, penalty));
+    }
+
+    /** "is above a level": any level, and the level itself is not above it. */
+    private static void levels() {
+        PhotoModels x = new PhotoModels(6, 6, 0);
+        x.pixel(0, 0, 0, 255);
+        x.pixel(0, 0, 3, 1);
+        x.heights(0, 1, 0);
+        int[][] due = {{Integer.MIN_VALUE, 1}, {-256, 1}, {-1, 1}, {0, 2}, {1, 1}, {254, 1}, {255, 0}, {256, 0},
+            {Integer.MAX_VALUE, 0}};
+        for (int[] each : due) {
+            CHECKS.due("holes above " + each[0], x.holes(each[0]), each[1]);
         }
-        CHECKS.dueThrow("no heights", Checks.STATE, () -> x.depth(5, 8));
-        CHECKS.dueThrow("no heights", Checks.STATE, () -> x.holes(0));
-        int[][] outside = {{-1, 0}, {6, 0}, {0, -1}, {0, 9}, {Integer.MAX_VALUE, 0}, {0, Integer.MIN_VALUE}};
-        for (int[] each : outside) {
-            CHECKS.dueThrow("index ahead of state", Checks.INDEX, () -> x.depth(each[0], each[1]));
+    }
+
+    /** "joined side by side (across or down)" */
+    private static void joinedAcrossOrDown() {
+        int[][][] shapes = {
+            {{2, 2}, {3, 2}}, {{2, 2}, {2, 3}}, {{2, 2}, {3, 3}}, {{3, 2}, {2, 3}}, {{2, 2}, {4, 2}}, {{2, 2}, {2, 4}},
+            {{5, 1}, {0, 2}}, {{5, 5}, {0, 0}}, {{0, 0}, {0, 5}}, {{0, 0}, {5, 0}},
+            {{2, 2}, {3, 3}, {3, 2}}, {{1, 1}, {2, 1}, {3, 1}, {3, 2}, {3, 3}, {2, 3}, {1, 3}, {1, 2}},
+            {{0, 2}, {1, 2}, {2, 2}, {2, 1}, {2, 0}}, {{1, 0}, {1, 1}, {0, 1}, {3, 0}, {3, 1}, {2, 1}},
+            {{1, 0}, {1, 1}, {0, 1}}, {{0, 0}, {0, 1}, {1, 1}, {2, 1}, {2, 0}}, {{4, 4}, {4, 5}, {5, 5}}};
+        int[] due = {1, 1, 2, 2, 2, 2, 2, 2, 2, 2, 1, 1, 1, 1, 1, 1, 1};
+        for (int i = 0; i < shapes.length; i++) {
+            PhotoModels x = new PhotoModels(6, 6, 0);
+            for (int[] cell : shapes[i]) {
+                x.pixel(2, cell[0], cell[1], 9);
+            }
+            CHECKS.due("cost of shape " + i, x.heights(2, 3, 0), 9L * shapes[i].length);
+            CHECKS.due("holes of shape " + i, x.holes(0), due[i]);
+            CHECKS.due("asked again", x.holes(0), due[i]);
+            CHECKS.due("at the level", x.holes(9), 0);
         }
+    }
+
+    /** "by the latest heights()", "as it was in the latest heights()" */
+    private static void ofTheLatestHeights() {
+        PhotoModels x = new PhotoModels(6, 6, 0);
+        x.pixel(0, 3, 1, 50);
+        x.pixel(1, 1, 1, 50);
+        x.heights(0, 1, 0);
+        CHECKS.due("depth of the first", x.depth(3, 1), 2);
+        CHECKS.due("holes of the first", x.holes(0), 0);
+        x.heights(0, 2, 0);
+        CHECKS.due("depth of the second", x.depth(3, 1), 0);
+        CHECKS.due("holes of the second", x.holes(49), 1);
+        x.pixel(0, 3, 1, 0);
+        x.pixel(2, 5, 5, 255);
+        CHECKS.due("whatever the photos become", x.holes(49), 1);
+        CHECKS.due("whatever the photos become", x.holes(50), 0);
+        x.heights(2, 3, 0);
+        CHECKS.due("holes of the third", x.holes(254), 1);
+        x.heights(3, 3, 0);
+        CHECKS.due("holes of the fourth", x.holes(0), 0);
+    }
+
+    /** "there were none": neither a refused heights() nor a match is one. */
+    private static void noHeightsNoHoles() {
+        PhotoModels x = new PhotoModels(6, 6, 0);
+        x.match(0, 1, 2, 2);
+        x.run(20);
+        CHECKS.dueThrow("heights", Checks.ARGUMENT, () -> x.heights(0, 1, 101));
+        CHECKS.dueThrow("depth", Checks.STATE, () -> x.depth(0, 0));
+        CHECKS.dueThrow("holes", Checks.STATE, () -> x.holes(-1));
         x.heights(0, 1, 100);
-        CHECKS.due("the last cell", x.depth(5, 8), 0);
-        for (int[] each : outside) {
-            CHECKS.dueThrow("outside", Checks.INDEX, () -> x.depth(each[0], each[1]));
-        }
+        CHECKS.due("depth", x.depth(0, 0), 0);
+        CHECKS.due("holes", x.holes(-1), 1);
     }
 }

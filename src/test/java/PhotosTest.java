@@ -4,16 +4,21 @@ public final class PhotosTest {
 
     public static void main(String[] args) {
         newObject();
-        sides();
         pixels();
-        wrongPixels();
         matchInAnotherPhoto();
         firstOfEqualMatches();
         bestElsewhere();
         nearAndFar();
         foundStaysAsItWas();
-        wrongMatches();
         counts();
+        cellsAreApart();
+        matchInItself();
+        rowByRow();
+        moreThanOneCellFrom();
+        thereIsAlwaysAnotherCell();
+        foundOfTheLatest();
+        countsOfANewObject();
+        countsAtTheirMost();
         CHECKS.end();
     }
 
@@ -39,19 +44,6 @@ public final class PhotosTest {
         CHECKS.dueThrow("at(0, 0)", Checks.INDEX, () -> x.at(0, 0));
     }
 
-    private static void sides() {
-        int[] given = {Integer.MIN_VALUE, -1, 0, 5, 6, 7, 19, 20, 21, Integer.MAX_VALUE};
-        int[] due = {6, 6, 6, 6, 6, 7, 19, 20, 20, 20};
-        for (int i = 0; i < given.length; i++) {
-            PhotoModels wide = new PhotoModels(given[i], 9, 0);
-            CHECKS.due("width of " + given[i], wide.count(0), due[i]);
-            CHECKS.due("height 9", wide.count(1), 9);
-            PhotoModels high = new PhotoModels(9, given[i], 0);
-            CHECKS.due("height of " + given[i], high.count(1), due[i]);
-            CHECKS.due("width 9", high.count(0), 9);
-        }
-    }
-
     private static void pixels() {
         PhotoModels x = new PhotoModels(7, 11, 0);
         for (int photo = 0; photo < 4; photo++) {
@@ -65,21 +57,6 @@ public final class PhotosTest {
             CHECKS.due("corner again", x.pixel(photo, 6, 0, 7), 255);
             CHECKS.due("other corner", x.pixel(photo, 0, 10, 0), 0);
         }
-    }
-
-    private static void wrongPixels() {
-        PhotoModels x = new PhotoModels(7, 11, 0);
-        x.pixel(0, 0, 0, 33);
-        int[][] outside = {{-1, 0, 0}, {4, 0, 0}, {0, -1, 0}, {0, 7, 0}, {0, 0, -1}, {0, 0, 11},
-            {Integer.MIN_VALUE, 0, 0}, {0, Integer.MAX_VALUE, 0}, {0, 0, Integer.MIN_VALUE}};
-        for (int[] each : outside) {
-            CHECKS.dueThrow("pixel outside", Checks.INDEX, () -> x.pixel(each[0], each[1], each[2], 5));
-            CHECKS.dueThrow("pixel outside, v too", Checks.INDEX, () -> x.pixel(each[0], each[1], each[2], 256));
-        }
-        for (int v : new int[] {-1, 256, Integer.MIN_VALUE, Integer.MAX_VALUE}) {
-            CHECKS.dueThrow("pixel value", Checks.ARGUMENT, () -> x.pixel(0, 0, 0, v));
-        }
-        CHECKS.due("nothing changed", x.pixel(0, 0, 0, 0), 33);
     }
 
     private static void matchInAnotherPhoto() {
@@ -177,20 +154,6 @@ public final class PhotosTest {
         CHECKS.dueThrow("found(3)", Checks.INDEX, () -> x.found(3));
     }
 
-    private static void wrongMatches() {
-        PhotoModels x = new PhotoModels(7, 9, 0);
-        int[][] wrong = {{-1, 0, 2, 2}, {4, 0, 2, 2}, {0, -1, 2, 2}, {0, 4, 2, 2}, {0, 1, 0, 2}, {0, 1, 6, 2},
-            {0, 1, 2, 0}, {0, 1, 2, 8}, {0, 1, -1, 2}, {0, 1, 2, Integer.MAX_VALUE},
-            {0, 1, Integer.MIN_VALUE, 2}};
-        for (int[] each : wrong) {
-            CHECKS.dueThrow("match", Checks.INDEX, () -> x.match(each[0], each[1], each[2], each[3]));
-        }
-        CHECKS.dueThrow("still no match", Checks.STATE, () -> x.found(2));
-        CHECKS.dueThrow("index ahead of state", Checks.INDEX, () -> x.found(3));
-        CHECKS.due("the last window", x.match(0, 1, 5, 7), 0);
-        CHECKS.due("the first window", x.match(0, 1, 1, 1), 0);
-    }
-
     private static void counts() {
         PhotoModels x = new PhotoModels(6, 6, 0);
         x.place();
@@ -205,5 +168,129 @@ public final class PhotosTest {
         for (int what : new int[] {-1, 5, Integer.MIN_VALUE, Integer.MAX_VALUE}) {
             CHECKS.dueThrow("count", Checks.INDEX, () -> x.count(what));
         }
+    }
+
+    /** "A cell: what it was": the greatest, the least and the same value, and no other cell. */
+    private static void cellsAreApart() {
+        PhotoModels x = new PhotoModels(6, 7, 0);
+        for (int i = 0; i < 4 * 42; i++) {
+            CHECKS.due("at first", x.pixel(i / 42, i % 6, i % 42 / 6, i), 0);
+        }
+        for (int i = 0; i < 4 * 42; i++) {
+            CHECKS.due("what it was", x.pixel(i / 42, i % 6, i % 42 / 6, 255), i);
+        }
+        CHECKS.due("the greatest", x.pixel(2, 3, 4, 255), 255);
+        CHECKS.due("the same", x.pixel(2, 3, 4, 0), 255);
+        CHECKS.due("the least", x.pixel(2, 3, 4, 0), 0);
+        CHECKS.due("the same", x.pixel(2, 3, 4, 1), 0);
+    }
+
+    /** A photo may be searched for its own window: the first of its kind is found. */
+    private static void matchInItself() {
+        PhotoModels x = new PhotoModels(8, 8, 0);
+        x.pixel(3, 5, 5, 90);
+        CHECKS.due("its own window", x.match(3, 3, 5, 5), 0);
+        CHECKS.due("x", x.found(0), 5);
+        CHECKS.due("y", x.found(1), 5);
+        x.pixel(3, 2, 2, 90);
+        CHECKS.due("the first of two", x.match(3, 3, 5, 5), 0);
+        CHECKS.due("x", x.found(0), 2);
+        CHECKS.due("y", x.found(1), 2);
+        CHECKS.due("itself elsewhere", x.found(2), 0);
+    }
+
+    /** "the least miss, at the first such cell, row by row" */
+    private static void rowByRow() {
+        int[][] pairs = {{3, 3, 6, 3}, {6, 3, 3, 4}, {1, 1, 6, 6}, {6, 1, 1, 2}, {5, 2, 1, 6}};
+        for (int[] each : pairs) {
+            PhotoModels x = new PhotoModels(8, 8, 0);
+            for (int i = 0; i < 64; i++) {
+                x.pixel(0, i % 8, i / 8, 50);
+            }
+            lightUp(x, each[0], each[1]);
+            lightUp(x, each[2], each[3]);
+            CHECKS.due("both windows are alike", x.match(0, 1, 4, 4), 0);
+            CHECKS.due("x of the first", x.found(0), each[0]);
+            CHECKS.due("y of the first", x.found(1), each[1]);
+        }
+    }
+
+    private static void lightUp(PhotoModels x, int across, int down) {
+        for (int i = 0; i < 9; i++) {
+            x.pixel(1, across - 1 + i % 3, down - 1 + i / 3, 50);
+        }
+    }
+
+    /** "all cells that lie more than one cell from it (across or down)": one is not, two are. */
+    private static void moreThanOneCellFrom() {
+        // The windows with the dark cell miss by less; the first of them is the one at 1, 1.
+        int[][] dark = {{1, 1, 90000}, {0, 0, 90000}, {2, 1, 80000}, {1, 2, 80000}, {2, 0, 80000}, {0, 2, 80000}};
+        for (int[] each : dark) {
+            PhotoModels x = new PhotoModels(8, 7, 0);
+            for (int i = 0; i < 56; i++) {
+                x.pixel(1, i % 8, i / 8, 100);
+            }
+            x.pixel(1, each[0], each[1], 0);
+            String call = "dark at " + each[0] + ", " + each[1];
+            CHECKS.due(call, x.match(0, 1, 3, 3), 80000);
+            CHECKS.due(call + ": x", x.found(0), 1);
+            CHECKS.due(call + ": y", x.found(1), 1);
+            CHECKS.due(call + ": elsewhere", x.found(2), each[2]);
+        }
+    }
+
+    /** "NONE without any": with sides of 6 or more there is one wherever the found cell lies. */
+    private static void thereIsAlwaysAnotherCell() {
+        for (int i = 0; i < 16; i++) {
+            PhotoModels x = new PhotoModels(6, 6, 0);
+            x.pixel(0, 1 + i % 4, 1 + i / 4, 200);
+            x.match(0, 0, 1 + i % 4, 1 + i / 4);
+            CHECKS.due("x", x.found(0), 1 + i % 4);
+            CHECKS.due("y", x.found(1), 1 + i / 4);
+            CHECKS.due("not NONE", x.found(2), 40000);
+        }
+        CHECKS.due("a miss of 0 is not NONE", PhotoModels.NONE, -1);
+    }
+
+    /** "Of the latest match" */
+    private static void foundOfTheLatest() {
+        PhotoModels x = new PhotoModels(9, 9, 0);
+        x.pixel(0, 2, 2, 10);
+        x.pixel(1, 6, 5, 10);
+        x.match(0, 1, 2, 2);
+        CHECKS.due("x of the first match", x.found(0), 6);
+        x.match(0, 0, 2, 2);
+        CHECKS.due("x of the second", x.found(0), 2);
+        CHECKS.due("y of the second", x.found(1), 2);
+        x.match(2, 3, 4, 4);
+        CHECKS.due("x of the third", x.found(0), 1);
+        CHECKS.due("elsewhere of the third", x.found(2), 0);
+    }
+
+    private static void countsOfANewObject() {
+        PhotoModels x = new PhotoModels(13, 17, 5);
+        int[] due = {13, 17, 0, 0, 0};
+        for (int what = 0; what < 5; what++) {
+            CHECKS.due("count " + what, x.count(what), due[what]);
+        }
+    }
+
+    private static void countsAtTheirMost() {
+        PhotoModels x = new PhotoModels(6, 20, 5);
+        for (int i = 1; i <= 12; i++) {
+            x.place();
+            x.spare(i - 1, true);
+            CHECKS.due("places", x.count(2), i);
+            CHECKS.due("spares", x.count(4), i);
+        }
+        for (int i = 1; i <= 10; i++) {
+            x.known(0, 11, 1);
+            CHECKS.due("lengths", x.count(3), i);
+        }
+        x.spare(11, false);
+        x.spare(11, false);
+        CHECKS.due("one spare less", x.count(4), 11);
+        CHECKS.due("width", x.count(0), 6);
+        CHECKS.due("height", x.count(1), 20);
     }
 }

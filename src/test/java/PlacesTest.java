@@ -5,13 +5,19 @@ public final class PlacesTest {
     public static void main(String[] args) {
         places();
         sightings();
-        wrongSightings();
         spares();
         drawnOnes();
         firstOfEquals();
         shiftStays();
         noPlaces();
-        wrongRelatives();
+        newPlaces();
+        notAnyMore();
+        leastAndGreatestSightings();
+        toleranceAcrossAndDown();
+        sparesDrawnToo();
+        leastAndGreatestTries();
+        onePhotoTwice();
+        inTheirOrder();
         CHECKS.end();
     }
 
@@ -43,24 +49,6 @@ public final class PlacesTest {
         CHECKS.due("no more, again", x.seen(0, 2, -1, -1), false);
         CHECKS.due("it does not count any more", x.miss(0), 999000L * 999000);
         CHECKS.due("the other one does", x.miss(1), 3000L * 3000 + 4000L * 4000);
-    }
-
-    private static void wrongSightings() {
-        PhotoModels x = new PhotoModels(6, 6, 0);
-        x.place();
-        x.seen(0, 0, 7, 8);
-        int[][] nowhere = {{-1, 0}, {1, 0}, {0, -1}, {0, 4}, {12, 0}, {Integer.MAX_VALUE, 0}, {0, Integer.MIN_VALUE}};
-        for (int[] each : nowhere) {
-            CHECKS.dueThrow("seen", Checks.INDEX, () -> x.seen(each[0], each[1], 5, 5));
-            CHECKS.dueThrow("seen, x too", Checks.INDEX, () -> x.seen(each[0], each[1], 1000, 5));
-            CHECKS.dueThrow("seen no more", Checks.INDEX, () -> x.seen(each[0], each[1], -1, 5));
-        }
-        int[][] wrong = {{1000, 0}, {Integer.MAX_VALUE, 0}, {0, 1000}, {0, -1}, {999, Integer.MIN_VALUE},
-            {0, Integer.MAX_VALUE}, {1000, -1}};
-        for (int[] each : wrong) {
-            CHECKS.dueThrow("seen", Checks.ARGUMENT, () -> x.seen(0, 0, each[0], each[1]));
-        }
-        CHECKS.due("nothing changed", x.miss(0), 7000L * 7000 + 8000L * 8000);
     }
 
     private static void spares() {
@@ -191,23 +179,138 @@ public final class PlacesTest {
         CHECKS.dueThrow("shift of none", Checks.STATE, () -> x.shift(1));
     }
 
-    private static void wrongRelatives() {
-        PhotoModels x = new PhotoModels(6, 6, 3);
+    /** "A place, seen nowhere, not spare" */
+    private static void newPlaces() {
+        PhotoModels x = new PhotoModels(6, 6, 0);
+        for (int i = 0; i < 12; i++) {
+            x.place();
+            CHECKS.due("not spare", x.spare(i, false), false);
+            for (int photo = 0; photo < 4; photo++) {
+                CHECKS.due("seen nowhere", x.seen(i, photo, -1, 0), false);
+                CHECKS.due("in no pair", x.relative(photo, photo, 1, 0), 0);
+            }
+            CHECKS.due("no share", x.miss(i), 0);
+        }
+    }
+
+    /** "x below 0: not any more", whatever y is; "whether it was seen there" */
+    private static void notAnyMore() {
+        int[][] gone = {{-1, 0}, {-1, -1}, {-1, 1000}, {-1, Integer.MIN_VALUE}, {-1, Integer.MAX_VALUE},
+            {-1000, 5}, {Integer.MIN_VALUE, 5}, {Integer.MIN_VALUE, Integer.MIN_VALUE}};
+        PhotoModels x = new PhotoModels(6, 6, 0);
         x.place();
-        x.seen(0, 0, 5, 5);
-        x.seen(0, 1, 6, 7);
-        x.relative(0, 1, 1, 0);
-        for (int photo : new int[] {-1, 4, Integer.MIN_VALUE, Integer.MAX_VALUE}) {
-            CHECKS.dueThrow("a", Checks.INDEX, () -> x.relative(photo, 0, 1, 1));
-            CHECKS.dueThrow("b", Checks.INDEX, () -> x.relative(0, photo, 1, 1));
-            CHECKS.dueThrow("b and tries", Checks.INDEX, () -> x.relative(0, photo, 0, 1));
+        for (int[] each : gone) {
+            CHECKS.due("for the first time", x.seen(0, 3, 0, 0), false);
+            CHECKS.due("again, at the same", x.seen(0, 3, 0, 0), true);
+            CHECKS.due("again, at another", x.seen(0, 3, 4, 3), true);
+            CHECKS.due("it has a share", x.miss(0), 25000000);
+            CHECKS.due("not any more", x.seen(0, 3, each[0], each[1]), true);
+            CHECKS.due("it has none", x.miss(0), 0);
+            CHECKS.due("nor was it", x.seen(0, 3, each[0], each[1]), false);
+            CHECKS.due("no pair", x.relative(3, 3, 1, 0), 0);
         }
-        for (int tries : new int[] {0, -1, 21, Integer.MIN_VALUE, Integer.MAX_VALUE}) {
-            CHECKS.dueThrow("tries", Checks.ARGUMENT, () -> x.relative(2, 3, tries, 1));
+    }
+
+    private static void leastAndGreatestSightings() {
+        PhotoModels x = new PhotoModels(6, 6, 0);
+        x.place();
+        int[][] edges = {{0, 0}, {999, 0}, {0, 999}, {999, 999}};
+        for (int i = 0; i < 4; i++) {
+            CHECKS.due("seen", x.seen(0, i, edges[i][0], edges[i][1]), false);
+            long due = 1000000L * (edges[i][0] * edges[i][0] + edges[i][1] * edges[i][1]);
+            CHECKS.due("its share", x.miss(0), due);
+            x.seen(0, i, -1, 0);
         }
-        for (int tolerance : new int[] {-1, 101, Integer.MIN_VALUE, Integer.MAX_VALUE}) {
-            CHECKS.dueThrow("tolerance", Checks.ARGUMENT, () -> x.relative(2, 3, 1, tolerance));
+    }
+
+    /** "differs by at most the tolerance across and down" */
+    private static void toleranceAcrossAndDown() {
+        for (int tolerance : new int[] {0, 1, 50, 99, 100}) {
+            for (int more = 0; more < 2; more++) {
+                int off = tolerance + more;
+                int due = more == 0 ? 2 : 1;
+                CHECKS.due("right by " + off, pairOff(off, 0, tolerance), due);
+                CHECKS.due("left by " + off, pairOff(-off, 0, tolerance), due);
+                CHECKS.due("down by " + off, pairOff(0, off, tolerance), due);
+                CHECKS.due("up by " + off, pairOff(0, -off, tolerance), due);
+                CHECKS.due("both by " + off, pairOff(off, -off, tolerance), due);
+                CHECKS.due("one too far", pairOff(tolerance, off, tolerance), due);
+            }
         }
-        CHECKS.due("the shift stays", x.shift(1), 2);
+        CHECKS.due("as far as can be", pairOff(499, -500, 100), 1);
+    }
+
+    private static int pairOff(int across, int down, int tolerance) {
+        PhotoModels x = new PhotoModels(6, 6, 9);
+        x.place();
+        x.place();
+        x.seen(0, 1, 20, 30);
+        x.seen(0, 2, 500, 500);
+        x.seen(1, 1, 20, 30);
+        x.seen(1, 2, 500 + across, 500 + down);
+        return x.relative(1, 2, 20, tolerance);
+    }
+
+    /** "in order, spare ones too" */
+    private static void sparesDrawnToo() {
+        PhotoModels x = new PhotoModels(6, 6, 65536);
+        for (int i = 0; i < 3; i++) {
+            x.place();
+            x.seen(i, 0, 0, 0);
+            x.seen(i, 1, i == 0 ? 0 : 100, 7);
+            x.spare(i, true);
+        }
+        // Number 0 is 65536: modulo 3 it tells the place 1, with which the place 2 agrees.
+        CHECKS.due("two spare ones agree", x.relative(0, 1, 1, 0), 2);
+        CHECKS.due("shift across", x.shift(0), 100);
+        CHECKS.due("shift down", x.shift(1), 7);
+    }
+
+    /** "tries is not 1 .. 20, or tolerance not 0 .. 100": the edges themselves are right. */
+    private static void leastAndGreatestTries() {
+        PhotoModels x = new PhotoModels(6, 6, 0);
+        x.place();
+        x.seen(0, 0, 0, 0);
+        for (int tries : new int[] {1, 2, 19, 20}) {
+            for (int tolerance : new int[] {0, 1, 99, 100}) {
+                CHECKS.due("one place", x.relative(0, 0, tries, tolerance), 1);
+                CHECKS.due("no place", x.relative(1, 0, tries, tolerance), 0);
+            }
+        }
+    }
+
+    /** "both may be one photo": all places seen in it agree, with no shift. */
+    private static void onePhotoTwice() {
+        PhotoModels x = new PhotoModels(6, 6, 4);
+        for (int i = 0; i < 12; i++) {
+            x.place();
+            x.seen(i, 2, 83 * i, 999 - 90 * i);
+            CHECKS.due("all agree", x.relative(2, 2, 1, 0), i + 1);
+            CHECKS.due("across", x.shift(0), 0);
+            CHECKS.due("down", x.shift(1), 0);
+        }
+    }
+
+    /** "of the n places seen in both photos (in order ..)": others are not counted. */
+    private static void inTheirOrder() {
+        PhotoModels x = new PhotoModels(6, 6, 65536);
+        for (int i = 0; i < 7; i++) {
+            x.place();
+        }
+        // Told in another order, with places between them that only one of the photos sees.
+        for (int place : new int[] {6, 2, 4}) {
+            x.seen(place, 3, 500 + 10 * place, 500 - place);
+            x.seen(place, 0, 500, 500);
+        }
+        x.seen(1, 0, 5, 5);
+        x.seen(3, 3, 5, 5);
+        x.seen(5, 1, 5, 5);
+        // 65536 modulo 3 is 1: the place 4.
+        CHECKS.due("itself alone", x.relative(0, 3, 1, 0), 1);
+        CHECKS.due("across", x.shift(0), 40);
+        CHECKS.due("down", x.shift(1), -4);
+        CHECKS.due("itself alone", x.relative(3, 0, 1, 0), 1);
+        CHECKS.due("across, the other way", x.shift(0), -40);
+        CHECKS.due("down, the other way", x.shift(1), 4);
     }
 }

@@ -6,6 +6,8 @@ public final class RandomRunsTest {
     private static final int[] ODD = {Integer.MIN_VALUE, Integer.MIN_VALUE + 1, -65537, -2, -1, 0, 1, 2, 3, 4, 5, 6,
         11, 12, 19, 20, 21, 100, 101, 255, 256, 999, 1000, 10000, 10001, 65536, 65537,
         Integer.MAX_VALUE - 1, Integer.MAX_VALUE};
+    /** What later calls answer is free. */
+    private static final int MOST_CALLS = 512;
 
     private final Random random;
     private final PhotoModels program;
@@ -14,6 +16,7 @@ public final class RandomRunsTest {
     private final int height;
     private final int shades;
     private final int oddEvery;
+    private int calls;
     private int stoppedRuns;
 
     private RandomRunsTest(long run) {
@@ -31,13 +34,16 @@ public final class RandomRunsTest {
 
     public static void main(String[] args) {
         int stopped = 0;
-        for (long run = 1; run <= 150; run++) {
+        for (long run = 1; run <= 1500; run++) {
             RandomRunsTest one = new RandomRunsTest(run);
             if (run % 3 == 1) {
                 one.paint();
+            } else if (run % 6 == 5) {
+                one.lookAround(run);
             }
-            for (int call = 0; call < 512; call++) {
-                one.call(run, random(one, run));
+            int kinds = run % 6 == 5 ? 14 : 21;
+            while (one.calls < MOST_CALLS) {
+                one.call(run, one.random.nextInt(kinds));
             }
             stopped += one.stoppedRuns;
         }
@@ -45,19 +51,32 @@ public final class RandomRunsTest {
         CHECKS.end();
     }
 
-    private static int random(RandomRunsTest one, long run) {
-        return one.random.nextInt(run % 6 == 5 ? 14 : 21);
+    /** Textured rows of two photos, as drawn calls alone would leave most cells at 0. */
+    private void paint() {
+        for (int i = 0; i < 240 && i < 2 * width * height; i++) {
+            int photo = i % 2;
+            int cell = i / 2;
+            int v = random.nextInt(shades);
+            program.pixel(photo, cell % width, cell / width, v);
+            plain.pixel(photo, cell % width, cell / width, v);
+            calls++;
+        }
     }
 
-    /** Textured photos, as 512 calls alone would leave most cells at 0. */
-    private void paint() {
-        for (int photo = 0; photo < 4; photo++) {
-            for (int i = 0; i < width * height; i++) {
-                int v = random.nextInt(shades);
-                program.pixel(photo, i % width, i / width, v);
-                plain.pixel(photo, i % width, i / width, v);
+    /** Places seen close together, mostly not in photo 0: rounding may raise such a sum. */
+    private void lookAround(long run) {
+        int number = 3 + random.nextInt(10);
+        for (int i = 0; i < number; i++) {
+            int place = i;
+            same(run, "place", program::place, plain::place);
+            for (int j = random.nextInt(4) == 0 ? 0 : 1; j < 4; j++) {
+                int photo = j;
+                int x = random.nextInt(5) - 1;
+                int y = random.nextInt(4);
+                same(run, "seen", () -> program.seen(place, photo, x, y), () -> plain.seen(place, photo, x, y));
             }
         }
+        runBoth(run, 20);
     }
 
     private int odd() {
@@ -171,7 +190,11 @@ public final class RandomRunsTest {
         }
     }
 
-    private static Object same(long run, String call, Checks.Call got, Checks.Call want) {
+    private Object same(long run, String call, Checks.Call got, Checks.Call want) {
+        if (calls == MOST_CALLS) {
+            return null;
+        }
+        calls++;
         Object due = outcome(want);
         Object answer = outcome(got);
         CHECKS.due("run " + run + ": " + call + " " + answer + ", due is " + due + ": same", answer.equals(due), true);
