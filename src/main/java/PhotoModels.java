@@ -6,7 +6,7 @@ import java.util.Arrays;
  *
  * <p>The public methods look at their arguments, in the order that the document asks for, ahead of
  * any change; the classes inside may therefore rely on them. Every row is made in a constructor and
- * used again, so that no call makes anything.
+ * used again, so that no call makes anything but the exception that it throws.
  */
 public final class PhotoModels {
     public static final int NONE = -1;
@@ -288,12 +288,12 @@ public final class PhotoModels {
         }
 
         int look(Photos photos, int a, int b, int x, int y) {
-            int least = Integer.MAX_VALUE;
+            int least = NONE;
             for (int by = 1; by < height - 1; by++) {
                 for (int bx = 1; bx < width - 1; bx++) {
                     int miss = photos.windowMiss(a, x, y, b, bx, by);
                     misses[by * width + bx] = miss;
-                    if (miss < least) {
+                    if (isLess(miss, least)) {
                         least = miss;
                         foundX = bx;
                         foundY = by;
@@ -310,12 +310,16 @@ public final class PhotoModels {
             for (int y = 1; y < height - 1; y++) {
                 for (int x = 1; x < width - 1; x++) {
                     int miss = misses[y * width + x];
-                    if (isFarFromFound(x, y) && (least == NONE || miss < least)) {
+                    if (isFarFromFound(x, y) && isLess(miss, least)) {
                         least = miss;
                     }
                 }
             }
             return least;
+        }
+
+        private static boolean isLess(int miss, int least) {
+            return least == NONE || miss < least;
         }
 
         private boolean isFarFromFound(int x, int y) {
